@@ -11,6 +11,8 @@ public final class ShutBench {
     private static final int MOST_LOOKS = 400;
     private static final long WIDEST_AREA = 1073741824L;
     private static final long WHOLE = 1048576L;
+    private static final long LEAST_RAW = -2147483648L;
+    private static final long GREATEST_RAW = 2147483647L;
     private static final int MOST_DEGREE = 1000;
 
     // Kinds of ACTS: those without a part of their own, those of one part, those of two.
@@ -280,6 +282,7 @@ public final class ShutBench {
         private static final int TOO_MUCH = 3;
         private static final int MOST_OPEN = 12;
         private static final int NO_KIND = -1;
+        private static final int WHOLE_WORD = -2;
         private static final int MOST_DIGITS = 4;
 
         final Tape tape = new Tape();
@@ -333,9 +336,10 @@ public final class ShutBench {
             }
         }
 
+        /** A SUM that stands in as many ( ) as are open; piece() lets no more than MOST_OPEN open. */
         private void sum(int open) {
             term(open);
-            for (int i = 0; i < MOST_ACTS && fault == 0; i++) {
+            for (int i = 0; i < MOST_BYTES && fault == 0; i++) {
                 int sign = sign();
                 if (sign != '+' && sign != '-' || !meet()) {
                     return;
@@ -349,7 +353,7 @@ public final class ShutBench {
 
         private void term(int open) {
             power(open);
-            for (int i = 0; i < MOST_ACTS && fault == 0; i++) {
+            for (int i = 0; i < MOST_BYTES && fault == 0; i++) {
                 int sign = sign();
                 if (sign != '*' && sign != '/' || !meet()) {
                     return;
@@ -384,77 +388,68 @@ public final class ShutBench {
             }
         }
 
-        /** A PART of a text. */
+        /** A PART of a text: a WORD that is whole by itself, or what stands in ( ), perhaps behind a name. */
         private void piece(int open) {
-            int sign = sign();
-            if (sign == '(') {
-                inside(open, ')');
-            } else if (isWordByte(sign)) {
-                word(open);
-            } else {
-                refuse(WRONG);
-            }
-        }
-
-        /** ( or , and a SUM behind it, and the sign that must end it, at which place stands then. */
-        private void inside(int open, int last) {
-            if (open >= MOST_OPEN) {
-                refuse(TOO_MUCH);
+            int name = sign() == '(' ? NO_KIND : word();
+            if (fault != 0 || name == WHOLE_WORD) {
                 return;
             }
-            place++;
-            sum(open + 1);
-            if (fault == 0 && sign() != last) {
-                refuse(WRONG);
+            if (sign() == '(' && open >= MOST_OPEN) {
+                refuse(TOO_MUCH);
             }
-            if (last == ')') {
-                place++;
+            pass('(');
+            int left = 0;
+            if (name == LESSER || name == GREATER) {
+                inside(open);
+                pass(',');
+                left = draft.acts - 1;
+            }
+            inside(open);
+            pass(')');
+            if (name != NO_KIND) {
+                emit(name, 0, left);
             }
         }
 
-        private void word(int open) {
+        private void inside(int open) {
+            if (fault == 0) {
+                sum(open + 1);
+            }
+        }
+
+        private void pass(int due) {
+            if (fault == 0 && sign() != due) {
+                refuse(WRONG);
+            }
+            place++;
+        }
+
+        /** Goes over a WORD: the name's kind, or WHOLE_WORD for one that nothing need follow, which is emitted. */
+        private int word() {
             int end = place;
             while (end < tape.size && isWordByte(tape.byteAt(end))) {
                 end++;
             }
-            int first = place;
             int kind = kindOf(end);
             if (kind == NO_KIND) {
                 refuse(WRONG);
-                return;
+                return WHOLE_WORD;
             }
             if (!meet()) {
-                return;
+                return WHOLE_WORD;
             }
-            if (kind == CURVE && curveNumber() >= known) {
-                refuse(NO_CURVE);
+            if (kind == X) {
+                emit(X, 0, 0);
+            } else if (kind == NUMBER) {
+                emit(NUMBER, number(end), 0);
+            } else if (kind == CURVE) {
+                if (curveNumber() >= known) {
+                    refuse(NO_CURVE);
+                }
+                emit(CURVE, curveNumber(), 0);
             }
-            int told = curveNumber();
             place = end;
-            if (kind == X || kind == NUMBER || kind == CURVE) {
-                emit(kind, kind == NUMBER ? number(first, end) : told, 0);
-            } else {
-                named(open, kind);
-            }
-        }
-
-        /** What stands in the ( ) behind a name. */
-        private void named(int open, int kind) {
-            if (fault == 0 && sign() != '(') {
-                refuse(WRONG);
-            }
-            if (fault != 0) {
-                return;
-            }
-            int left = 0;
-            if (kind == LESSER || kind == GREATER) {
-                inside(open, ',');
-                left = draft.acts - 1;
-            }
-            if (fault == 0) {
-                inside(open, ')');
-            }
-            emit(kind, 0, left);
+            return kind <= CURVE ? WHOLE_WORD : kind;
         }
 
         private int curveNumber() {
@@ -535,11 +530,11 @@ public final class ShutBench {
             return true;
         }
 
-        private long number(int first, int end) {
+        private long number(int end) {
             long digits = 0;
             long scale = 1;
             boolean behindPoint = false;
-            for (int i = first; i < end; i++) {
+            for (int i = place; i < end; i++) {
                 int sign = tape.byteAt(i);
                 if (isDigit(sign)) {
                     digits = digits * 10 + sign - '0';
@@ -576,7 +571,7 @@ public final class ShutBench {
         private static final long BEYOND = 1L << 40;
 
         static long of(long low, long high) {
-            if (low < Integer.MIN_VALUE || high > Integer.MAX_VALUE || low > high) {
+            if (low < LEAST_RAW || high > GREATEST_RAW || low > high) {
                 return HOLE;
             }
             return low << 32 | high & 0xFFFFFFFFL;
@@ -1094,7 +1089,7 @@ public final class ShutBench {
                 long spread = -((Shut.lowOf(lean) - Shut.highOf(lean)) * wide >> WHOLE_BITS);
                 int middle = middleOf(begin, end);
                 int middleUp = (wide & 1) == 0 ? middle : middle + 1;
-                long there = spread > Integer.MAX_VALUE ? Shut.HOLE : gauge.measure(curve, middle, middleUp, false);
+                long there = spread > GREATEST_RAW ? Shut.HOLE : gauge.measure(curve, middle, middleUp, false);
                 if (there != Shut.HOLE) {
                     shut = there;
                     unsure = -(-spread * wide >> EIGHTH_BITS);
