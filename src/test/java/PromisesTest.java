@@ -489,6 +489,16 @@ public final class PromisesTest {
         // e is 2 * 45 * 45 whole ones, too much: the SHUT over all tells.
         CHECKS.due("x^2", bench.area(2, 0, 45 * ONE, 0, 0), 0);
         CHECKS.dueShut("x^2", bench, 0, 45L * 45 * 45 * ONE);
+        // The slope is [0, 2.1875]: e is 2147483647 over the first span, and more over the second one.
+        bench = with("greater(2.1875*x,0)", "size(x)");
+        CHECKS.due("e at its most", bench.area(0, -490853405, 490853405, 0, 0), 0);
+        CHECKS.dueShut("e at its most", bench, -251316943243L, 251316943243L);
+        CHECKS.due("e beyond", bench.area(0, -490853406, 490853406, 0, 0), 0);
+        CHECKS.dueShut("e beyond", bench, 0, 1005267777361L);
+        // The fourth SUM of all is wider than 2, but LOW and HIGH from time to time are not.
+        CHECKS.due("near from time to time", bench.area(1, -3, 22, 6, 2), 0);
+        CHECKS.dueShut("near from time to time", bench, 0, 2);
+        CHECKS.due("parts", bench.count(2), 4);
     }
 
     // ---- 10
