@@ -1187,6 +1187,7 @@ public final class ShutBench {
         private static final int MOST_TOLD = 60;
         private static final int FULL = 59;
         private static final int MOST_WAITING = 64;
+        private static final int TRIED = 3;
         /** More than the parts that the widest span can become, those that become two among them. */
         private static final long ALL_LOOKS = 1L << 34;
 
@@ -1289,16 +1290,16 @@ public final class ShutBench {
             return shut != Shut.HOLE && Shut.lowOf(shut) > bound;
         }
 
+        /** Whether the bound is broken at a part's begin, its end or its middle: place is the first of them. */
         private boolean breaks(Gauge gauge, int curve, int begin, int end, int bound) {
-            return breaksAt(gauge, curve, begin, bound)
-                    || breaksAt(gauge, curve, end, bound)
-                    || breaksAt(gauge, curve, middleOf(begin, end), bound);
-        }
-
-        private boolean breaksAt(Gauge gauge, int curve, int tried, int bound) {
-            long shut = gauge.measure(curve, tried, tried, false);
-            place = tried;
-            return shut != Shut.HOLE && Shut.highOf(shut) <= bound;
+            for (int i = 0; i < TRIED; i++) {
+                place = i == 0 ? begin : i == 1 ? end : middleOf(begin, end);
+                long shut = gauge.measure(curve, place, place, false);
+                if (shut != Shut.HOLE && Shut.highOf(shut) <= bound) {
+                    return true;
+                }
+            }
+            return false;
         }
 
         private void await(int end) {
