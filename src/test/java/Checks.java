@@ -1,14 +1,47 @@
+import java.util.LinkedHashSet;
+import java.util.Set;
+
 /** What the tests share: telling texts to a bench, and counting answers that are not due. */
 final class Checks {
+    /** The sentences with an answer that was not due. */
+    private final Set<String> broken = new LinkedHashSet<>();
+    private final Set<String> sentences = new LinkedHashSet<>();
+    /** How many answers that are not due are printed. */
+    private final int printed;
     private int wrong;
     private int asked;
+    private String sentence = "";
+
+    Checks() {
+        this(40);
+    }
+
+    Checks(int printed) {
+        this.printed = printed;
+    }
+
+    /** Names the sentence of the document that the answers from here on are asked for. */
+    void says(String words) {
+        sentence = words;
+        sentences.add(words);
+    }
+
+    /** All sentences that answers were asked for. */
+    Set<String> sentences() {
+        return sentences;
+    }
+
+    Set<String> broken() {
+        return broken;
+    }
 
     void due(String call, long got, long want) {
         asked++;
         if (got != want) {
             wrong++;
-            if (wrong <= 40) {
-                System.out.println(call + " answered " + got + ", due is " + want);
+            broken.add(sentence);
+            if (wrong <= printed) {
+                System.out.println((sentence.isEmpty() ? "" : "\"" + sentence + "\": ") + call + " answered " + got + ", due is " + want);
             }
         }
     }

@@ -71,6 +71,10 @@ public final class LanguageTest {
         CHECKS.due("the whole face", told, FACE.split(" ").length);
         for (Class<?> inner : ShutBench.class.getDeclaredClasses()) {
             CHECKS.due(inner + " is static", Modifier.isStatic(inner.getModifiers()) ? 1 : 0, 1);
+            for (Method method : inner.getDeclaredMethods()) {
+                boolean ofFace = FACE.matches("(.* )?" + method.getName() + "( .*)?");
+                CHECKS.due(method + " bears no public name", ofFace ? 1 : 0, 0);
+            }
             int state = 0;
             for (Field field : inner.getDeclaredFields()) {
                 boolean isStatic = Modifier.isStatic(field.getModifiers());
