@@ -1,4 +1,4 @@
-/** What the tests of the edges share. Each asks, sentence by sentence, what the document says of its edges. */
+/** What the tests share that ask a new bench for a text at a time. */
 abstract class Edges {
     static final int MIN = Integer.MIN_VALUE;
     static final int MAX = Integer.MAX_VALUE;
@@ -13,7 +13,7 @@ abstract class Edges {
     /** Asks all; the answers that are not due are counted by the checks. */
     abstract void ask();
 
-    /** Asks all of all edges. */
+    /** Asks all that the document says of its edges, sentence by sentence. */
     static void askAll(Checks checks) {
         new EdgesOfTextsTest(checks).ask();
         new EdgesOfShutsTest(checks).ask();
@@ -53,6 +53,7 @@ abstract class Edges {
         int curves = bench.count(0);
         checks.due("curve() of " + text, Checks.tell(bench, text), -2 - (kind + 4 * place));
         checks.due("CURVES behind " + text, bench.count(0), curves);
+        checks.due("bytes of the TAPE behind " + text, bench.count(1), 0);
     }
 
     void value(String text, int a, int b, long low, long high) {
