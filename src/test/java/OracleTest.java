@@ -3,6 +3,10 @@ public final class OracleTest {
     private static final String[] NAMES = {"root", "exp", "log", "sin", "cos", "size"};
     private static final String[] NUMBERS = {
         "0", "1", "2", "3", "0.5", "7", "0.0001", "2047.9999", "2048", "9999", "1.25", "12.3456", "0.1", "100", "6.5"};
+    private static final String[] AHEAD = {
+        "x^9*x", "(x+1)^9", "size(x)", "-x", "sin(x)", "lesser(c0,2)", "c0^9*c0", "c0", "x+"};
+    private static final String[] CROWD = {
+        "x", "x", "x", "x", "7", "2.5", "c0", "c1", "c7", "c8", "(x)", "(-c0)", "greater(x,2)", "12345", "x1", "("};
     private static final int[] EDGES = {
         0, 1, -1, 1048576, -1048576, 7994000, 7994001, -14680064, -14680065, 6815744, -6815744, 6815745, -6815745,
         Integer.MAX_VALUE, Integer.MIN_VALUE, 1073741823, 2097152, 524288, 46341};
@@ -21,6 +25,9 @@ public final class OracleTest {
         for (int run = first; run < first + runs; run++) {
             state = run * 7919L;
             run(checks, run);
+            for (int n = 0; n < 20; n++) {
+                crowd(checks, run);
+            }
         }
         checks.close("OracleTest");
     }
@@ -34,18 +41,9 @@ public final class OracleTest {
             if (told > 0 || next(9) == 0) {
                 told--;
                 String text = text();
-                for (int i = 0; i < text.length(); i += 20) {
-                    int[] n = new int[5];
-                    for (int k = 0; k < 20; k++) {
-                        n[k / 4] = n[k / 4] << 8 | (i + k < text.length() ? text.charAt(i + k) : next(256));
-                    }
-                    checks.due("run " + run + " feed " + text, bench.feed(n[0], n[1], n[2], n[3], n[4]),
-                            oracle.feed(n[0], n[1], n[2], n[3], n[4]));
-                    calls++;
-                }
-                checks.due("run " + run + " end", bench.end(text.length()), oracle.end(text.length()));
+                tell(checks, bench, oracle, "run " + run, text);
                 checks.due("run " + run + " curve " + text, bench.curve(), oracle.curve());
-                calls += 2;
+                calls += 2 + (text.length() + 19) / 20;
             } else {
                 call(checks, bench, oracle, "run " + run + " call " + calls + " ");
                 calls++;
@@ -57,6 +55,54 @@ public final class OracleTest {
                 checks.due(where + "count(" + what + ")", bench.count(what), oracle.count(what));
             }
         }
+    }
+
+    /** Texts with so many ACTS and ( that some have one too many, which those of run() hardly ever have. */
+    private static void crowd(Checks checks, int run) {
+        ShutBench bench = new ShutBench();
+        Oracle oracle = new Oracle();
+        for (int n = 0; n < 3; n++) {
+            String text = n < 2 ? AHEAD[next(AHEAD.length)] : crowded();
+            tell(checks, bench, oracle, "run " + run + " crowd", text);
+            String where = "run " + run + " crowd curve " + text;
+            int told = oracle.curve();
+            checks.due(where, bench.curve(), told);
+            for (int what = 0; what < 3; what++) {
+                checks.due(where + " about " + what, bench.about(told, what), oracle.about(told, what));
+            }
+        }
+    }
+
+    private static String crowded() {
+        StringBuilder text = new StringBuilder();
+        int open = next(3) == 0 ? 9 + next(5) : next(4);
+        for (int i = 0; i < open; i++) {
+            text.append(next(3) == 0 ? NAMES[next(NAMES.length)] : "").append('(');
+        }
+        for (int n = next(40); n > 0; n--) {
+            text.append(next(7) == 0 ? "-" : "").append(CROWD[next(CROWD.length)]);
+            text.append(next(4) == 0 ? "^" + next(10) : "").append(blank()).append("+-*/".charAt(next(4)));
+        }
+        text.append('x');
+        for (int i = next(6) == 0 ? 1 : 0; i < open; i++) {
+            text.append(')');
+        }
+        if (next(3) == 0) {
+            text.insert(next(text.length()), CROWD[next(CROWD.length)]);
+        }
+        return text.length() > 200 ? text.substring(0, 200) : text.toString();
+    }
+
+    private static void tell(Checks checks, ShutBench bench, Oracle oracle, String where, String text) {
+        for (int i = 0; i < text.length(); i += 20) {
+            int[] n = new int[5];
+            for (int k = 0; k < 20; k++) {
+                n[k / 4] = n[k / 4] << 8 | (i + k < text.length() ? text.charAt(i + k) : next(256));
+            }
+            checks.due(where + " feed " + text, bench.feed(n[0], n[1], n[2], n[3], n[4]),
+                    oracle.feed(n[0], n[1], n[2], n[3], n[4]));
+        }
+        checks.due(where + " end", bench.end(text.length()), oracle.end(text.length()));
     }
 
     private static void call(Checks checks, ShutBench bench, Oracle oracle, String where) {
